@@ -284,11 +284,9 @@ public final class DovecoteMail {
         if (k < 0 || k >= box.countIn(folder)) {
             throw new IndexOutOfBoundsException("no such place in the FOLDER");
         }
-        int number = 0;
-        int message = NONE;
-        for (int i = 0; i <= k; i++) {
-            message = box.nextByNumber(folder, number);
-            number = box.numberOf(message);
+        int message = box.nextByNumber(folder, 0);
+        for (int i = 0; i < k && message != NONE; i++) {
+            message = box.nextByNumber(folder, box.copies[message].number);
         }
         return message;
     }
@@ -675,9 +673,7 @@ public final class DovecoteMail {
 
     private void binAgedCopies(Box box) {
         for (int folder = 0; folder < box.shelfCount; folder++) {
-            if (folder != BIN && box.shelves[folder].age > 0) {
-                binAgedIn(box, folder);
-            }
+            binAgedIn(box, folder);
         }
     }
 
@@ -1132,10 +1128,6 @@ public final class DovecoteMail {
                 }
             }
             return next;
-        }
-
-        int numberOf(int message) {
-            return message >= 0 && message < copies.length ? copies[message].number : 0;
         }
 
         void removeRule(int place) {

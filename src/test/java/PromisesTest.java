@@ -51,6 +51,7 @@ public final class PromisesTest {
         promise31WouldAge();
         promise32WouldMiss();
         promise33Digest();
+        allFull();
         DUE.end("PromisesTest");
     }
 
@@ -129,6 +130,7 @@ public final class PromisesTest {
         }
         is(20, "LINGER before", () -> mail.setLinger(20, 10));
         is(0, "the first QUERY", () -> mail.query(0, 0, 0));
+        is(0, "the CLOCK is 0 at first", () -> mail.setClock(1));
         DovecoteMail other = new DovecoteMail();
         other.send(0, 15, 0, 0, 1, NONE);
         is(0, "messages() beside another object", mail::messages);
@@ -364,6 +366,9 @@ public final class PromisesTest {
         is(6, "rule", () -> mail.rule(0, 4, 0, true, 0, 3, false));
         is(3, "wouldLie", () -> mail.wouldLie(0, 0, 0, 0, 1));
         is(5, "unrule(0, 0)", () -> mail.unrule(0, 0));
+        is(6, "rule", () -> mail.rule(0, 4, 0, true, 0, 2, false));
+        is(5, "unrule(0, 5)", () -> mail.unrule(0, 5));
+        is(3, "wouldLie by the one before, as it was", () -> mail.wouldLie(0, 0, 0, 0, 1));
         is(6, "rule", () -> mail.rule(0, 4, 0, true, 0, 4, false));
         for (int i = 5; i > 0; i--) {
             int left = i;
@@ -396,6 +401,7 @@ public final class PromisesTest {
         mail.move(0, 5, BIN);
         mail.mark(0, 4, 0, true);
         mail.mark(0, 3, 1, true);
+        mail.mark(0, 4, 1, true);
         int[][] rows = {
             {NONE, 1, 1, 10, 7, 5},
             {NONE, 1, 1, 15, 2, 1},
@@ -849,6 +855,17 @@ public final class PromisesTest {
         mail.send(0, 1, 3, 0, 1, 1);
         is(2, "this one joins two", () -> mail.threads(0));
         noSuchPerson("threads", person -> mail.threads(person));
+        fresh();
+        sendAlone(1, 5);
+        mail.setClock(11);
+        sendAlone(1, 5);
+        is(2, "beyond WINDOW as it is at first", () -> mail.threads(0));
+        mail.send(9, 1, 6, 0, 1, 0);
+        mail.send(9, 1, 7, 0, 1, 0);
+        is(2, "threads(0)", () -> mail.threads(0));
+        mail.move(0, 0, BIN);
+        mail.empty(0, BIN);
+        is(3, "what is GONE joins none", () -> mail.threads(0));
     }
 
     private static void promise24OfThread() {
@@ -863,6 +880,7 @@ public final class PromisesTest {
         mail.send(0, 3, 1, 0, 1, 3);
         mail.mark(0, 2, 0, true);
         mail.mark(0, 3, 1, true);
+        mail.mark(0, 4, 1, true);
         int[][] due = {{0, 1, 1, 0}, {1, 5, 4, 0}, {1, 5, 4, 1}, {1, 5, 4, 2}, {1, 5, 4, 0}, {1, 5, 4, 3}};
         for (int m = 0; m < 6; m++) {
             for (int w = 0; w < 4; w++) {
@@ -1079,6 +1097,8 @@ public final class PromisesTest {
         is(15, "wouldGet(15, 0, 0, 0, 1)", () -> mail.wouldGet(15, 0, 0, 0, 1));
         is(1, "wouldGet(1, 0, 6, 1, 1)", () -> mail.wouldGet(1, 0, 6, 1, 1));
         is(5, "wouldGet(1, 0, 7, 2, 50)", () -> mail.wouldGet(1, 0, 7, 2, 50));
+        is(7, "wouldGet(5, 0, 6, 1, 1)", () -> mail.wouldGet(5, 0, 6, 1, 1));
+        is(1, "wouldGet(1, 0, 6, 1, 1) after that", () -> mail.wouldGet(1, 0, 6, 1, 1));
         is(7, "wouldGet(1, 0, 7, 1, 50)", () -> mail.wouldGet(1, 0, 7, 1, 50));
         is(14, "wouldGet(12, 0, 7, 1, 50)", () -> mail.wouldGet(12, 0, 7, 1, 50));
         is(0, "nothing is changed", mail::messages);
@@ -1211,5 +1231,48 @@ public final class PromisesTest {
         mail.query(7, 1, 0);
         is(digestFromAnswers(3), "digest()", mail::digest);
         is(digestFromAnswers(3), "digest() again", mail::digest);
+    }
+
+    /** Every call with all FOLDERS, RULES, MESSAGES and QUERIES that can be. */
+    private static void allFull() {
+        fresh();
+        for (int folder = 2; folder < 8; folder++) {
+            mail.folder(0, folder == 2 ? IN : folder - 1);
+            mail.setAge(0, folder, 30);
+        }
+        for (int i = 0; i < 6; i++) {
+            mail.rule(0, 2, i, false, i % 2 == 0 ? 0 : 3, i % 2 == 0 ? i + 2 : i % 3 + 1, false);
+        }
+        mail.setQuota(0, 2000);
+        for (int i = 0; i < 60; i++) {
+            mail.send(i % 10, 1, i, i, 10, i - 1);
+        }
+        mail.query(3, 1, 0);
+        for (int i = 1; i < 20; i++) {
+            mail.query(9, i - 1, i - 1);
+        }
+        is(digestFromAnswers(20), "digest()", mail::digest);
+        is(600, "full(0)", () -> mail.full(0));
+        is(10.0, "meanSize(0)", () -> mail.meanSize(0));
+        is(60, "finds(0, 19)", () -> mail.finds(0, 19));
+        is(59, "found(0, 19, 0)", () -> mail.found(0, 19, 0));
+        is(0, "found(0, 19, 59)", () -> mail.found(0, 19, 59));
+        is(1, "threads(0)", () -> mail.threads(0));
+        is(60, "COPIES of the THREAD", () -> mail.ofThread(0, 59, 1));
+        is(59, "steps", () -> mail.ofThread(0, 59, 3));
+        is(60, "COPIES in IN or BELOW it", () -> mail.ofFolder(0, IN, 5));
+        is(28, "wouldMiss(0, 4)", () -> mail.wouldMiss(0, 4));
+        is(mail.ofFolder(0, 6, 1), "since(0, 6, 0)", () -> mail.since(0, 6, 0));
+        is(52, "wouldAge(0, 30)", () -> mail.wouldAge(0, 30));
+        is(0, "setClock(30)", () -> mail.setClock(30));
+        is(52, "COPIES in the BIN", () -> mail.ofFolder(0, BIN, 1));
+        is(8, "empty(0, IN)", () -> mail.empty(0, IN));
+        is(6000, "wouldAge(0, 50)", () -> mail.wouldAge(0, 50));
+        is(9, "move(0, 0, IN)", () -> mail.move(0, 0, IN));
+        is(digestFromAnswers(20), "digest()", mail::digest);
+        is(59, "setClock(50)", () -> mail.setClock(50));
+        mail.move(0, 0, BIN);
+        is(1, "empty(0, BIN)", () -> mail.empty(0, BIN));
+        is(digestFromAnswers(20), "digest()", mail::digest);
     }
 }
