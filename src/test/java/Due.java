@@ -9,13 +9,19 @@ final class Due {
 
     private int asked;
     private int wrong;
+    private String sentence = "";
+
+    /** The sentence of the document that is tested from here on. */
+    void about(String sentence) {
+        this.sentence = "\"" + sentence + "\": ";
+    }
 
     void is(Object want, String what, Call call) {
         asked++;
         Object got = outcome(call);
         if (!Objects.equals(got, want)) {
             wrong++;
-            System.out.println(what + " answered " + got + ", due is " + want);
+            System.out.println(sentence + what + " answered " + got + ", due is " + want);
         }
     }
 
