@@ -1199,17 +1199,12 @@ public final class LimitsTest {
 
     private static void wholeObject() {
         about("A number d starts with 2689; then d becomes d * 31 + v, which wraps around as a 64-bit integer");
-        BigInteger empty = digestNotWrapped(0);
+        BigInteger empty = Checksum.of(made -> { }, 0);
         is(true, "it is more than 64 bits hold", () -> empty.bitLength() > 64);
         is(empty.longValue(), "digest() of a new object", mail::digest);
-        for (int i = 0; i < 60; i++) {
-            mail.send(i % 10, 15 - i % 16, i % 5, i * 4, i % 50 + 1, i - 1);
-        }
-        for (int i = 0; i < 20; i++) {
-            mail.query(i % 2 == 0 ? 3 : 7, i % 2 == 0 ? i + 1 : i - 1, 0);
-        }
-        each(6, i -> mail.folder(2, i + (i == 0 ? 0 : 1)));
-        is(digestNotWrapped(20).longValue(), "digest() with 60 MESSAGES and 20 QUERIES", mail::digest);
+        BigInteger full = Checksum.of(LimitsTest::fill, 20);
+        fill(mail);
+        is(full.longValue(), "digest() with 60 MESSAGES and 20 QUERIES", mail::digest);
         about("An object is used for at most 512 calls after it has been made");
         for (int i = 0; i < 511; i++) {
             mail.setQuota(i % 4, i + 1);
@@ -1217,38 +1212,15 @@ public final class LimitsTest {
         is(508, "the 512th call", () -> mail.setQuota(3, 1));
     }
 
-    private static BigInteger mix(BigInteger d, int v) {
-        return d.multiply(BigInteger.valueOf(31)).add(BigInteger.valueOf(v));
-    }
-
-    private static BigInteger digestNotWrapped(int queries) {
-        BigInteger d = mix(mix(BigInteger.valueOf(2689), mail.messages()), mail.stamp());
-        for (int address = 0; address < 10; address++) {
-            d = mix(d, mail.bounces(address));
+    private static void fill(DovecoteMail made) {
+        for (int i = 0; i < 60; i++) {
+            made.send(i % 10, 15 - i % 16, i % 5, i * 4, i % 50 + 1, i - 1);
         }
-        for (int person = 0; person < 4; person++) {
-            d = mix(mix(mix(d, mail.full(person)), mail.folders(person)), mail.threads(person));
-            for (int i = 0; i < mail.folders(person) * 6; i++) {
-                d = mix(d, mail.ofFolder(person, i / 6, i % 6));
-            }
-            for (int message = 0; message < mail.messages(); message++) {
-                d = mixCopy(d, person, message);
-            }
-            for (int query = 0; query < queries; query++) {
-                d = mix(d, mail.finds(person, query));
-            }
+        for (int i = 0; i < 20; i++) {
+            made.query(i % 2 == 0 ? 3 : 7, i % 2 == 0 ? i + 1 : i - 1, 0);
         }
-        return d;
-    }
-
-    private static BigInteger mixCopy(BigInteger d, int person, int message) {
-        BigInteger mixed = d;
-        for (int what = 0; what < 5; what++) {
-            mixed = mix(mixed, mail.copy(person, message, what));
+        for (int folder = 2; folder < 8; folder++) {
+            made.folder(2, folder == 2 ? IN : folder - 1);
         }
-        for (int what = 0; what < 4 && mail.copy(person, message, 1) != NONE; what++) {
-            mixed = mix(mixed, mail.ofThread(person, message, what));
-        }
-        return mixed;
     }
 }

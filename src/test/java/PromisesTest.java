@@ -1177,81 +1177,68 @@ public final class PromisesTest {
         outOfBounds("wouldMiss(1, 0)", () -> mail.wouldMiss(1, 0));
     }
 
-    /** The checksum as the promise says it, from the answers of the other calls. */
-    private static long digestFromAnswers(int queries) {
-        long d = 2689;
-        d = d * 31 + mail.messages();
-        d = d * 31 + mail.stamp();
-        for (int address = 0; address < 10; address++) {
-            d = d * 31 + mail.bounces(address);
-        }
-        for (int person = 0; person < 4; person++) {
-            d = d * 31 + mail.full(person);
-            d = d * 31 + mail.folders(person);
-            d = d * 31 + mail.threads(person);
-            for (int folder = 0; folder < mail.folders(person); folder++) {
-                for (int what = 0; what < 6; what++) {
-                    d = d * 31 + mail.ofFolder(person, folder, what);
-                }
-            }
-            for (int message = 0; message < mail.messages(); message++) {
-                for (int what = 0; what < 5; what++) {
-                    d = d * 31 + mail.copy(person, message, what);
-                }
-                for (int what = 0; mail.copy(person, message, 1) != NONE && what < 4; what++) {
-                    d = d * 31 + mail.ofThread(person, message, what);
-                }
-            }
-            for (int query = 0; query < queries; query++) {
-                d = d * 31 + mail.finds(person, query);
-            }
-        }
-        return d;
+    /** That digest() answers so after these calls on a new object as the promise says it. */
+    private static void digestIs(String what, int queries, Twins.Calls calls) {
+        DovecoteMail made = new DovecoteMail();
+        calls.on(made);
+        long due = Checksum.of(calls, queries).longValue();
+        is(due, "digest() " + what, made::digest);
+        is(due, "digest() again " + what, made::digest);
     }
 
     private static void promise33Digest() {
         fresh();
         is(-2284889529208440319L, "digest() of a new object", mail::digest);
-        is(digestFromAnswers(0), "digest()", mail::digest);
-        mail.folder(0, IN);
-        mail.folder(2, IN);
-        mail.folder(2, 2);
-        mail.setQuota(1, 20);
-        mail.rule(0, 2, 0, false, 0, 2, false);
-        for (int i = 0; i < 8; i++) {
-            mail.send(i, 15 - i, i % 3, i, 5 + i, i - 1);
-            mail.setClock(i * 4 + 1);
-        }
-        mail.mark(0, 0, 0, true);
-        mail.move(2, 0, 3);
-        mail.move(3, 1, BIN);
-        mail.empty(3, BIN);
-        mail.query(3, 8, 0);
-        mail.query(5, 2, 0);
-        mail.query(7, 1, 0);
-        is(digestFromAnswers(3), "digest()", mail::digest);
-        is(digestFromAnswers(3), "digest() again", mail::digest);
+        digestIs("of a new object", 0, made -> { });
+        digestIs("with some of all", 3, made -> {
+            made.folder(0, IN);
+            made.folder(2, IN);
+            made.folder(2, 2);
+            made.setQuota(1, 20);
+            made.rule(0, 2, 0, false, 0, 2, false);
+            for (int i = 0; i < 8; i++) {
+                made.send(i, 15 - i, i % 3, i, 5 + i, i - 1);
+                made.setClock(i * 4 + 1);
+            }
+            made.mark(0, 0, 0, true);
+            made.move(2, 0, 3);
+            made.move(3, 1, BIN);
+            made.empty(3, BIN);
+            made.query(3, 8, 0);
+            made.query(5, 2, 0);
+            made.query(7, 1, 0);
+        });
     }
 
-    /** Every call with all FOLDERS, RULES, MESSAGES and QUERIES that can be. */
-    private static void allFull() {
-        fresh();
+    /** All FOLDERS, RULES, MESSAGES and QUERIES that can be. */
+    private static void fill(DovecoteMail made) {
         for (int folder = 2; folder < 8; folder++) {
-            mail.folder(0, folder == 2 ? IN : folder - 1);
-            mail.setAge(0, folder, 30);
+            made.folder(0, folder == 2 ? IN : folder - 1);
+            made.setAge(0, folder, 30);
         }
         for (int i = 0; i < 6; i++) {
-            mail.rule(0, 2, i, false, i % 2 == 0 ? 0 : 3, i % 2 == 0 ? i + 2 : i % 3 + 1, false);
+            made.rule(0, 2, i, false, i % 2 == 0 ? 0 : 3, i % 2 == 0 ? i + 2 : i % 3 + 1, false);
         }
-        mail.setQuota(0, 2000);
+        made.setQuota(0, 2000);
         for (int i = 0; i < 60; i++) {
-            mail.send(i % 10, 1, i, i, 10, i - 1);
+            made.send(i % 10, 1, i, i, 10, i - 1);
         }
-        mail.query(3, 1, 0);
+        made.query(3, 1, 0);
         for (int i = 1; i < 20; i++) {
-            mail.query(9, i - 1, i - 1);
+            made.query(9, i - 1, i - 1);
         }
-        is(digestFromAnswers(20), "digest()", mail::digest);
+    }
+
+    private static void age(DovecoteMail made) {
+        made.setClock(30);
+        made.empty(0, IN);
+        made.move(0, 0, IN);
+    }
+
+    private static void allFull() {
+        fresh();
+        fill(mail);
+        digestIs("with all that can be", 20, PromisesTest::fill);
         is(600, "full(0)", () -> mail.full(0));
         is(10.0, "meanSize(0)", () -> mail.meanSize(0));
         is(60, "finds(0, 19)", () -> mail.finds(0, 19));
@@ -1269,10 +1256,19 @@ public final class PromisesTest {
         is(8, "empty(0, IN)", () -> mail.empty(0, IN));
         is(6000, "wouldAge(0, 50)", () -> mail.wouldAge(0, 50));
         is(9, "move(0, 0, IN)", () -> mail.move(0, 0, IN));
-        is(digestFromAnswers(20), "digest()", mail::digest);
+        digestIs("as all are old", 20, made -> {
+            fill(made);
+            age(made);
+        });
         is(59, "setClock(50)", () -> mail.setClock(50));
         mail.move(0, 0, BIN);
         is(1, "empty(0, BIN)", () -> mail.empty(0, BIN));
-        is(digestFromAnswers(20), "digest()", mail::digest);
+        digestIs("as all are GONE", 20, made -> {
+            fill(made);
+            age(made);
+            made.setClock(50);
+            made.move(0, 0, BIN);
+            made.empty(0, BIN);
+        });
     }
 }
